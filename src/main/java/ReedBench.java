@@ -463,7 +463,11 @@ public final class ReedBench {
         /** The key of the WORK, or FAR. The reed has come and the slot is wanted. */
         private int slotKey(State state, int r, int s) {
             fillNear(state, r, s, near);
-            return leastOf(near, 0, 2 * state.off);
+            int least = FAR;
+            for (int x = 0; x <= 2 * state.off; x++) {
+                least = Math.min(least, near[x]);
+            }
+            return least;
         }
 
         /** The key of the WORK for two, or FAR. Both reeds have come and both slots are wanted. */
@@ -482,11 +486,29 @@ public final class ReedBench {
             int widest = 2 * state.off;
             int apart = state.wanted[2 * k + 1] - state.wanted[2 * k];
             boolean bound = state.isBound(k);
+            int place = NONE;
             for (int x = 0; x <= widest; x++) {
                 int from = bound ? Math.max(0, x + state.low[k] - apart) : 0;
                 int to = bound ? Math.min(widest, x + state.high[k] - apart) : widest;
-                partner[x] = leastOf(near, from, to);
+                place = leastPlace(near, from, to, place);
+                partner[x] = place == NONE ? FAR : near[place];
             }
+        }
+
+        /**
+         * Where the least of a window is, NONE if the window is empty. The window's ends
+         * go up by one at most from call to call, so all of it is looked at only when
+         * the place before has fallen out of it.
+         */
+        private static int leastPlace(int[] row, int from, int to, int before) {
+            boolean stays = before >= from;
+            int place = stays ? before : NONE;
+            for (int x = stays ? to : from; x <= to; x++) {
+                if (place == NONE || row[x] <= row[place]) {
+                    place = x;
+                }
+            }
+            return place;
         }
 
         /** Takes the rows that fillFirst and fillPartner have left. */
@@ -516,14 +538,6 @@ public final class ReedBench {
                     above -= reed.thickness - j;
                 }
             }
-        }
-
-        private static int leastOf(int[] row, int from, int to) {
-            int least = FAR;
-            for (int x = from; x <= to; x++) {
-                least = Math.min(least, row[x]);
-            }
-            return least;
         }
     }
 
