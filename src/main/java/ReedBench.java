@@ -430,7 +430,7 @@ public final class ReedBench {
         }
 
         private static int rootOf(int key) {
-            return strokesOf(key) - tipOf(key);
+            return key / 32 - key % 32;
         }
 
         private static int joinedKey(int one, int other) {
