@@ -1,6 +1,8 @@
 import java.util.ArrayDeque;
+import java.util.ArrayList;
 import java.util.Arrays;
 import java.util.Deque;
+import java.util.List;
 
 // Long runs of calls, each answer compared with that of a plain model that tries everything.
 public final class ModelTests {
@@ -11,6 +13,9 @@ public final class ModelTests {
         {0, 0, 400, 400, 700, 700, 1200, 1200}};
     private static int wrong = 0;
     private static long seed;
+    /** Of the tuned run that goes on; no key in the other runs. */
+    private static int kind = 0;
+    private static int key = NONE;
 
     /** Reeds are rows: pitch, thickness, tip, place, plate, slot, strokes. */
     private static final class State {
@@ -39,13 +44,20 @@ public final class ModelTests {
     private static final class Model {
         State now = new State();
         Deque<State> past = new ArrayDeque<>();
+        int[][] slotMemo = new int[8][];
         int[][][] pairMemo = new int[4][][];
         int bestStrokes;
         int bestCount;
         int[] bestReeds;
         boolean seeking;
 
+        void forget() {
+            slotMemo = new int[8][];
+            pairMemo = new int[4][][];
+        }
+
         void changing() {
+            forget();
             past.addLast(now.copy());
             if (past.size() > 6) {
                 past.removeFirst();
@@ -185,9 +197,18 @@ public final class ModelTests {
             return now.reeds[r][what];
         }
 
-        boolean near(int r, int s, int i, int j) {
-            Integer pitch = pitchBehind(r, i, j);
-            return pitch != null && Math.abs(pitch - now.wanted[s]) <= now.off;
+        /** All ways to file a reed that bring it within off: {pitch, tip, root} each. */
+        List<int[]> nearWays(int r, int s) {
+            List<int[]> ways = new ArrayList<>();
+            for (int i = 0; i <= now.reeds[r][2]; i++) {
+                for (int j = 0; j < now.reeds[r][1]; j++) {
+                    Integer pitch = pitchBehind(r, i, j);
+                    if (pitch != null && Math.abs(pitch - now.wanted[s]) <= now.off) {
+                        ways.add(new int[] {pitch, i, j});
+                    }
+                }
+            }
+            return ways;
         }
 
         /** {strokes, tip, root}, or null. */
@@ -196,12 +217,8 @@ public final class ModelTests {
                 return null;
             }
             int[] best = null;
-            for (int i = 0; i <= now.reeds[r][2]; i++) {
-                for (int j = 0; j < now.reeds[r][1]; j++) {
-                    if (near(r, s, i, j)) {
-                        best = lesser(best, new int[] {i + j, i, j});
-                    }
-                }
+            for (int[] way : nearWays(r, s)) {
+                best = lesser(best, new int[] {way[1] + way[2], way[1], way[2]});
             }
             return best;
         }
@@ -213,27 +230,15 @@ public final class ModelTests {
                 || now.wanted[2 * k] < 0 || now.wanted[2 * k + 1] < 0) {
                 return null;
             }
+            int[] beats = now.beats[k];
+            List<int[]> others = nearWays(q, 2 * k + 1);
             int[] best = null;
-            for (int a = 0; a <= now.reeds[r][2]; a++) {
-                for (int b = 0; b < now.reeds[r][1]; b++) {
-                    if (near(r, 2 * k, a, b)) {
-                        best = lesser(best, withOther(r, q, k, a, b));
-                    }
-                }
-            }
-            return best;
-        }
-
-        int[] withOther(int r, int q, int k, int a, int b) {
-            int[] best = null;
-            for (int c = 0; c <= now.reeds[q][2]; c++) {
-                for (int d = 0; d < now.reeds[q][1]; d++) {
-                    if (near(q, 2 * k + 1, c, d)) {
-                        int apart = pitchBehind(q, c, d) - pitchBehind(r, a, b);
-                        int[] beats = now.beats[k];
-                        if (beats == null || apart >= beats[0] && apart <= beats[1]) {
-                            best = lesser(best, new int[] {a + b + c + d, a, b, c, d});
-                        }
+            for (int[] one : nearWays(r, 2 * k)) {
+                for (int[] other : others) {
+                    int apart = other[0] - one[0];
+                    if (beats == null || apart >= beats[0] && apart <= beats[1]) {
+                        int strokes = one[1] + one[2] + other[1] + other[2];
+                        best = lesser(best, new int[] {strokes, one[1], one[2], other[1], other[2]});
                     }
                 }
             }
@@ -259,6 +264,18 @@ public final class ModelTests {
 
         boolean beating(int set, int k) {
             return now.beats[k] != null && (set >> 2 * k & 3) == 3;
+        }
+
+        int slotStrokes(int r, int s) {
+            if (slotMemo[s] == null) {
+                slotMemo[s] = new int[12];
+                Arrays.fill(slotMemo[s], -2);
+            }
+            if (slotMemo[s][r] == -2) {
+                int[] w = workOf(r, s);
+                slotMemo[s][r] = w == null ? NONE : w[0];
+            }
+            return slotMemo[s][r];
         }
 
         int pairStrokes(int r, int q, int k) {
@@ -306,9 +323,10 @@ public final class ModelTests {
         }
 
         int moreStrokes(int set, int s, int[] reeds) {
-            if (!beating(set, s / 2)) {
-                int[] w = workOf(reeds[s], s);
-                return w == null ? NONE : w[0];
+            // Who is not within off alone is not so in a pair either.
+            int alone = slotStrokes(reeds[s], s);
+            if (alone == NONE || !beating(set, s / 2)) {
+                return alone;
             }
             return s % 2 == 0 ? 0 : pairStrokes(reeds[s - 1], reeds[s], s / 2);
         }
@@ -316,7 +334,6 @@ public final class ModelTests {
         void seek(int set, boolean one) {
             bestCount = 0;
             seeking = one;
-            pairMemo = new int[4][][];
             int[] reeds = new int[8];
             Arrays.fill(reeds, NONE);
             tryLays(set, 0, 0, 0, reeds);
@@ -386,6 +403,7 @@ public final class ModelTests {
             if (past.isEmpty()) {
                 return false;
             }
+            forget();
             now = past.removeLast();
             return true;
         }
@@ -397,14 +415,27 @@ public final class ModelTests {
             seed = 77777L + run * 1000003L;
             oneRun(run, seen);
         }
-        // Runs that hardly ever have a lay, or a plate, would show nothing.
-        if (seen[0] < 200 || seen[1] < 200 || seen[2] < 200 || seen[3] < 200) {
-            wrong++;
-            System.out.println("the runs show too little: " + Arrays.toString(seen));
+        int[] tuned = new int[4];
+        for (int run = 200; run < 280; run++) {
+            seed = 77777L + run * 1000003L;
+            tunedRun(run, tuned);
         }
+        // Runs that hardly ever have a lay, or a plate, would show nothing.
+        showsEnough(seen, 200);
+        showsEnough(tuned, 100);
         System.out.println(wrong == 0 ? "all answers are the model's" : wrong + " answers are not the model's");
         if (wrong != 0) {
             System.exit(1);
+        }
+    }
+
+    private static void showsEnough(int[] seen, int least) {
+        for (int count : seen) {
+            if (count < least) {
+                wrong++;
+                System.out.println("the runs show too little: " + Arrays.toString(seen));
+                return;
+            }
         }
     }
 
@@ -442,7 +473,30 @@ public final class ModelTests {
         }
     }
 
+    // Twelve stout reeds and eight slots, spread by a tuning so that trying everything ends soon.
+    private static void tunedRun(int run, int[] seen) {
+        ReedBench x = new ReedBench();
+        Model m = new Model();
+        kind = run % 4 == 0 ? 0 : run % 4 == 1 ? 1 : 2;
+        key = between(0, 8000);
+        for (int r = 0; r < 12; r++) {
+            int pitch = Math.max(0, key + TUNINGS[kind][r % 8] + between(-20, 20));
+            int thickness = between(1, 20);
+            int tip = between(0, 20);
+            due(run, "reed", x.reed(pitch, thickness, tip), m.reed(pitch, thickness, tip));
+        }
+        due(run, "tuning", bit(x.tuning(kind, key)), bit(m.tuning(kind, key)));
+        for (int n = 0; n < 60; n++) {
+            ask(run, x, m, seen);
+            change(run, x, m, 12, 8, 20);
+        }
+        key = NONE;
+    }
+
     private static int somePitch() {
+        if (key != NONE && next(12) != 0) {
+            return key + TUNINGS[kind][next(8)] + between(-20, 20);
+        }
         return next(12) == 0 ? between(-2, 10000) : 1000 + next(3) * 40 + next(20);
     }
 
@@ -496,7 +550,7 @@ public final class ModelTests {
                     due(run, "make", x.make(), m.make());
                 } else if (next(4) == 0 && mostSlots == 8) {
                     a = between(-1, 3);
-                    b = between(-1, 8001);
+                    b = key != NONE ? key : between(-1, 8001);
                     due(run, "tuning", bit(x.tuning(a, b)), bit(m.tuning(a, b)));
                 }
                 break;
@@ -524,6 +578,11 @@ public final class ModelTests {
             due(run, "work(" + r + ", " + s + ", " + what + ")", x.work(r, s, what), m.work(r, s, what));
         }
         for (int k = -1; k < 5; k++) {
+            if (key != NONE) {
+                // The reeds that came for this pair, in either order.
+                r = 2 * k + next(2);
+                q = 4 * k + 1 - r;
+            }
             int[] w = m.pairWorkOf(r, q, k);
             seen[0] += w != null && m.now.beats[k] != null && w[0] > 0 ? 1 : 0;
             for (int what = -1; what < 6; what++) {
